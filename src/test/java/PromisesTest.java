@@ -1,3 +1,5 @@
+import java.util.function.Supplier;
+
 /** One method a promise: ordinary inputs, the edges that the document names, and wrong inputs. */
 public final class PromisesTest {
     private static final int[] NO_STATE_OF_TWO = {-1, 2, 5, 6, Integer.MIN_VALUE, Integer.MAX_VALUE};
@@ -75,62 +77,67 @@ public final class PromisesTest {
         PathOdds x = new PathOdds();
         Check.same("1: size() of a new object", x.size(), 1);
         Check.same("1: length() of a new object", x.length(), 0);
-        allWeightsAreZero("1: a new object", x);
+        allWeightsAreZero("1: a new object", PathOdds::new);
     }
 
-    /** Tells weights of 0 apart by making all the others 1; spoils x. */
-    private static void allWeightsAreZero(String what, PathOdds x) {
-        int n = x.size();
+    /** Each kind of weights is seen by making the others 1, so each kind takes an object of its own. */
+    private static void allWeightsAreZero(String what, Supplier<PathOdds> made) {
+        PathOdds starts = made.get();
+        int n = starts.size();
+        fill(starts, false, true, true);
+        starts.read(0);
         for (int i = 0; i < n; i++) {
-            x.show(i, 0, 1.0);
+            Check.same(what + ", S(" + i + ")", starts.forward(0, i), 0.0);
         }
-        x.read(0);
+        PathOdds moves = made.get();
+        fill(moves, true, false, true);
+        readAll(moves, 0, 0);
         for (int i = 0; i < n; i++) {
-            Check.same(what + ", S(" + i + ")", x.forward(0, i), 0.0);
-            x.start(i, 1.0);
+            Check.same(what + ", M(" + i + ", j)", moves.backward(0, i), 0.0);
         }
-        for (int i = 0; i < n; i++) {
-            for (int s = 1; s < 4; s++) {
-                x.unread();
-                x.read(s);
-                Check.same(what + ", E(" + i + ", " + s + ")", x.forward(0, i), 0.0);
+        PathOdds shown = made.get();
+        fill(shown, true, true, false);
+        for (int s = 0; s < 4; s++) {
+            shown.read(s);
+            for (int i = 0; i < n; i++) {
+                Check.same(what + ", E(" + i + ", " + s + ")", shown.forward(0, i), 0.0);
+            }
+            shown.unread();
+        }
+    }
+
+    private static void fill(PathOdds x, boolean starts, boolean moves, boolean shown) {
+        for (int i = 0; i < x.size(); i++) {
+            if (starts) {
+                x.start(i, 1.0);
+            }
+            for (int j = 0; moves && j < x.size(); j++) {
+                x.move(i, j, 1.0);
+            }
+            for (int s = 0; shown && s < 4; s++) {
+                x.show(i, s, 1.0);
             }
         }
-        x.unread();
-        x.read(0);
-        x.read(0);
-        for (int i = 0; i < n; i++) {
-            Check.same(what + ", M(" + i + ", j)", x.backward(0, i), 0.0);
+    }
+
+    private static PathOdds madeAnew(int... counts) {
+        PathOdds x = even(6, 1.0);
+        readAll(x, 0, 1, 2);
+        for (int n : counts) {
+            Check.that("2: states(" + n + ")", x.states(n));
         }
-        Check.same(what + ", moves", x.possible(), 0);
-        PathOdds y = new PathOdds();
-        y.states(n);
-        for (int i = 0; i < n; i++) {
-            y.start(i, 1.0);
-        }
-        y.read(0);
-        Check.same(what + ", E(i, 0)", y.possible(), 0);
+        return x;
     }
 
     private static void states() {
         for (int n = 1; n <= 6; n++) {
-            PathOdds x = even(6, 1.0);
-            readAll(x, 0, 1, 2);
-            Check.that("2: states(" + n + ")", x.states(n));
+            int count = n;
+            PathOdds x = madeAnew(n);
             Check.same("2: size()", x.size(), n);
             Check.same("2: length()", x.length(), 0);
-            allWeightsAreZero("2: after states(" + n + ")", x);
+            allWeightsAreZero("2: after states(" + n + ")", () -> madeAnew(count));
+            allWeightsAreZero("2: states that were gone", () -> madeAnew(1, count));
         }
-        PathOdds x = even(6, 1.0);
-        x.states(1);
-        x.states(6);
-        allWeightsAreZero("2: states that were gone", x);
-        x = even(3, 1.0);
-        x.states(3);
-        x.start(0, 1.0);
-        x.read(0);
-        Check.same("2: E(0, 0) after states", x.forward(0, 0), 0.0);
-
         PathOdds kept = even(2, 0.5);
         readAll(kept, 0, 3);
         for (int n : new int[] {0, -1, 7, 8, Integer.MIN_VALUE, Integer.MAX_VALUE}) {
@@ -390,6 +397,15 @@ public final class PromisesTest {
         Check.same("13: best() of one symbol", x.best(), 0.7 * 0.3);
         readAll(x, 1);
         Check.same("13: best() of two", x.best(), Math.max(0.7 * 0.3 * 0.9 * 0.1, 0.7 * 0.3 * 0.2 * 0.9));
+        PathOdds moveFirst = new PathOdds();
+        moveFirst.start(0, 0.1);
+        moveFirst.show(0, 0, 1.0);
+        moveFirst.move(0, 0, 0.2);
+        moveFirst.show(0, 1, 0.3);
+        readAll(moveFirst, 0, 1);
+        Check.same("13: E comes in last", moveFirst.best(), 0.1 * 0.2 * 0.3);
+        Check.that("13: that case tells orders apart",
+            0.1 * 0.2 * 0.3 != 0.1 * (0.2 * 0.3) && 0.1 * 0.2 * 0.3 != 0.1 * 0.3 * 0.2);
         PathOdds most = even(6, 1.0);
         readAll(most, 0, 1, 2, 3, 0, 1, 2, 3, 0, 1, 2, 3);
         Check.same("13: weights of 1", most.best(), 1.0);
@@ -492,6 +508,19 @@ public final class PromisesTest {
             }
             Check.near("15: the shares at " + t, sum, 1.0);
         }
+        PathOdds productFirst = new PathOdds();
+        productFirst.states(2);
+        productFirst.start(0, 0.1);
+        productFirst.start(1, 0.2);
+        productFirst.move(0, 0, 0.1);
+        productFirst.move(1, 1, 1.0);
+        productFirst.show(0, 0, 1.0);
+        productFirst.show(1, 0, 1.0);
+        readAll(productFirst, 0, 0);
+        double all = 0.1 * 0.1 + 0.2;
+        Check.same("15: the product comes first", productFirst.share(0, 0), (0.1 * 0.1) / all);
+        Check.that("15: that case tells orders apart", (0.1 * 0.1) / all != 0.1 * (0.1 / all));
+
         PathOdds only = even(2, 0.5);
         only.start(0, 0.0);
         readAll(only, 1);
