@@ -7,8 +7,21 @@ final class Check {
 
     private static int wrong = 0;
     private static int asked = 0;
+    private static int shown = 0;
+    private static String sentence = "";
 
     private Check() {
+    }
+
+    /** Asks all that the test of one sentence of the document asks; what it throws ends that test alone. */
+    static void sentence(String words, Runnable test) {
+        sentence = words + "\n  ";
+        shown = 0;
+        try {
+            test.run();
+        } catch (RuntimeException e) {
+            report("ended with " + e);
+        }
     }
 
     static void that(String what, boolean holds) {
@@ -28,6 +41,14 @@ final class Check {
     static void same(String what, double got, double due) {
         asked++;
         if (!(got == due)) {
+            report(what + " answered " + got + ", due is " + due);
+        }
+    }
+
+    /** The same double, and the same zero where it is one. */
+    static void sameBits(String what, double got, double due) {
+        asked++;
+        if (Double.doubleToLongBits(got) != Double.doubleToLongBits(due)) {
             report(what + " answered " + got + ", due is " + due);
         }
     }
@@ -63,8 +84,9 @@ final class Check {
 
     private static void report(String line) {
         wrong++;
-        if (wrong <= 50) {
-            System.out.println(line);
+        shown++;
+        if (shown <= 50) {
+            System.out.println(sentence + line);
         }
     }
 }

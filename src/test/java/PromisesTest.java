@@ -51,28 +51,6 @@ public final class PromisesTest {
         return x;
     }
 
-    /** All weights of n states are w. */
-    private static PathOdds even(int n, double w) {
-        PathOdds x = new PathOdds();
-        x.states(n);
-        for (int i = 0; i < n; i++) {
-            x.start(i, w);
-            for (int j = 0; j < n; j++) {
-                x.move(i, j, w);
-            }
-            for (int s = 0; s < 4; s++) {
-                x.show(i, s, w);
-            }
-        }
-        return x;
-    }
-
-    private static void readAll(PathOdds x, int... symbols) {
-        for (int s : symbols) {
-            Check.that("read(" + s + ")", x.read(s));
-        }
-    }
-
     private static void newObject() {
         PathOdds x = new PathOdds();
         Check.same("1: size() of a new object", x.size(), 1);
@@ -91,7 +69,7 @@ public final class PromisesTest {
         }
         PathOdds moves = made.get();
         fill(moves, true, false, true);
-        readAll(moves, 0, 0);
+        Models.readAll(moves, 0, 0);
         for (int i = 0; i < n; i++) {
             Check.same(what + ", M(" + i + ", j)", moves.backward(0, i), 0.0);
         }
@@ -121,8 +99,8 @@ public final class PromisesTest {
     }
 
     private static PathOdds madeAnew(int... counts) {
-        PathOdds x = even(6, 1.0);
-        readAll(x, 0, 1, 2);
+        PathOdds x = Models.even(6, 1.0);
+        Models.readAll(x, 0, 1, 2);
         for (int n : counts) {
             Check.that("2: states(" + n + ")", x.states(n));
         }
@@ -138,8 +116,8 @@ public final class PromisesTest {
             allWeightsAreZero("2: after states(" + n + ")", () -> madeAnew(count));
             allWeightsAreZero("2: states that were gone", () -> madeAnew(1, count));
         }
-        PathOdds kept = even(2, 0.5);
-        readAll(kept, 0, 3);
+        PathOdds kept = Models.even(2, 0.5);
+        Models.readAll(kept, 0, 3);
         for (int n : new int[] {0, -1, 7, 8, Integer.MIN_VALUE, Integer.MAX_VALUE}) {
             Check.that("2: states(" + n + ") is refused", !kept.states(n));
             Check.same("2: size() after a refusal", kept.size(), 2);
@@ -160,7 +138,7 @@ public final class PromisesTest {
     }
 
     private static void start() {
-        PathOdds x = even(2, 1.0);
+        PathOdds x = Models.even(2, 1.0);
         x.read(0);
         for (double w : WEIGHTS) {
             Check.that("4: start(1, " + w + ")", x.start(1, w));
@@ -180,8 +158,8 @@ public final class PromisesTest {
     }
 
     private static void move() {
-        PathOdds x = even(2, 1.0);
-        readAll(x, 0, 0);
+        PathOdds x = Models.even(2, 1.0);
+        Models.readAll(x, 0, 0);
         for (double w : WEIGHTS) {
             Check.that("5: move(0, 1, " + w + ")", x.move(0, 1, w));
             Check.same("5: M(0, 0) + M(0, 1)", x.backward(0, 0), 1.0 + w);
@@ -203,7 +181,7 @@ public final class PromisesTest {
     }
 
     private static void show() {
-        PathOdds x = even(2, 1.0);
+        PathOdds x = Models.even(2, 1.0);
         for (int s = 0; s < 4; s++) {
             x.read(s);
             for (double w : WEIGHTS) {
@@ -228,7 +206,7 @@ public final class PromisesTest {
     }
 
     private static void read() {
-        PathOdds x = even(1, 1.0);
+        PathOdds x = Models.even(1, 1.0);
         for (int s = 0; s < 4; s++) {
             x.show(0, s, 1.0 / (1 << s));
         }
@@ -251,15 +229,15 @@ public final class PromisesTest {
     }
 
     private static void unread() {
-        PathOdds x = even(1, 1.0);
+        PathOdds x = Models.even(1, 1.0);
         x.show(0, 1, 0.5);
         x.show(0, 2, 0.25);
         Check.that("8: unread() of no symbols is refused", !x.unread());
         Check.same("8: length() after a refusal", x.length(), 0);
-        readAll(x, 1, 2);
+        Models.readAll(x, 1, 2);
         Check.that("8: unread()", x.unread());
         Check.same("8: what is left is the first symbol", x.total(), 0.5);
-        readAll(x, 1);
+        Models.readAll(x, 1);
         Check.same("8: read after unread", x.total(), 0.25);
         Check.that("8: unread()", x.unread());
         Check.that("8: unread()", x.unread());
@@ -276,7 +254,7 @@ public final class PromisesTest {
     private static void length() {
         PathOdds x = new PathOdds();
         Check.same("9: length()", x.length(), 0);
-        readAll(x, 3, 3, 3);
+        Models.readAll(x, 3, 3, 3);
         Check.same("9: length()", x.length(), 3);
         x.unread();
         x.read(4);
@@ -287,7 +265,7 @@ public final class PromisesTest {
 
     private static void forward() {
         PathOdds x = uneven();
-        readAll(x, 0, 1, 0);
+        Models.readAll(x, 0, 1, 0);
         double a00 = 0.1 * 0.7;
         double a01 = 0.7 * 0.3;
         double a10 = (a00 * 0.3 + a01 * 0.9) * 0.1;
@@ -299,24 +277,24 @@ public final class PromisesTest {
         Check.same("10: A(2, 0)", x.forward(2, 0), (a10 * 0.3 + a11 * 0.9) * 0.7);
         Check.same("10: A(2, 1)", x.forward(2, 1), (a10 * 0.6 + a11 * 0.2) * 0.3);
 
-        PathOdds lowFirst = even(3, 1.0);
+        PathOdds lowFirst = Models.even(3, 1.0);
         lowFirst.start(0, 0.1);
         lowFirst.start(1, 0.2);
         lowFirst.start(2, 0.3);
-        readAll(lowFirst, 0, 0);
+        Models.readAll(lowFirst, 0, 0);
         Check.same("10: the lowest state is added first", lowFirst.forward(1, 2), 0.1 + 0.2 + 0.3);
         Check.that("10: that case tells orders apart", 0.1 + 0.2 + 0.3 != 0.3 + 0.2 + 0.1);
 
-        PathOdds sumFirst = even(2, 1.0);
+        PathOdds sumFirst = Models.even(2, 1.0);
         sumFirst.start(0, 0.1);
         sumFirst.start(1, 0.2);
         sumFirst.show(0, 1, 0.3);
-        readAll(sumFirst, 0, 1);
+        Models.readAll(sumFirst, 0, 1);
         Check.same("10: E comes in after the sum", sumFirst.forward(1, 0), (0.1 + 0.2) * 0.3);
         Check.that("10: that case tells orders apart", (0.1 + 0.2) * 0.3 != 0.1 * 0.3 + 0.2 * 0.3);
 
         for (int n = 1; n <= 6; n++) {
-            PathOdds whole = even(n, 1.0);
+            PathOdds whole = Models.even(n, 1.0);
             double due = 1.0;
             for (int t = 0; t < 12; t++) {
                 whole.read(t % 4);
@@ -329,7 +307,7 @@ public final class PromisesTest {
 
     private static void backward() {
         PathOdds x = uneven();
-        readAll(x, 0, 1, 0);
+        Models.readAll(x, 0, 1, 0);
         double b10 = 0.3 * 0.7 * 1.0 + 0.6 * 0.3 * 1.0;
         double b11 = 0.9 * 0.7 * 1.0 + 0.2 * 0.3 * 1.0;
         Check.same("11: B(2, 0)", x.backward(2, 0), 1.0);
@@ -345,19 +323,19 @@ public final class PromisesTest {
         fromLeft.show(1, 1, 0.2);
         fromLeft.move(1, 0, 0.3);
         fromLeft.show(0, 2, 1.0);
-        readAll(fromLeft, 0, 1, 2);
+        Models.readAll(fromLeft, 0, 1, 2);
         Check.same("11: a product of three from the left", fromLeft.backward(0, 0), 0.1 * 0.2 * 0.3);
         Check.that("11: that case tells orders apart", 0.1 * 0.2 * 0.3 != 0.1 * (0.2 * 0.3));
 
-        PathOdds tiny = even(1, 1e-200);
-        readAll(tiny, 0, 0);
+        PathOdds tiny = Models.even(1, 1e-200);
+        Models.readAll(tiny, 0, 0);
         Check.same("11: a product that comes out as 0", tiny.backward(0, 0), 0.0);
 
-        PathOdds lowFirst = even(3, 1.0);
+        PathOdds lowFirst = Models.even(3, 1.0);
         lowFirst.move(1, 0, 0.1);
         lowFirst.move(1, 1, 0.2);
         lowFirst.move(1, 2, 0.3);
-        readAll(lowFirst, 2, 3);
+        Models.readAll(lowFirst, 2, 3);
         Check.same("11: the lowest state is added first", lowFirst.backward(0, 1), 0.1 + 0.2 + 0.3);
 
         PathOdds nothing = new PathOdds();
@@ -372,20 +350,20 @@ public final class PromisesTest {
     private static void total() {
         PathOdds x = uneven();
         Check.same("12: total() of no symbols", x.total(), 1.0);
-        readAll(x, 0);
+        Models.readAll(x, 0);
         Check.same("12: total() of one symbol", x.total(), 0.1 * 0.7 + 0.7 * 0.3);
-        readAll(x, 1, 0);
+        Models.readAll(x, 1, 0);
         Check.same("12: total()", x.total(), x.forward(2, 0) + x.forward(2, 1));
-        PathOdds lowFirst = even(3, 1.0);
+        PathOdds lowFirst = Models.even(3, 1.0);
         lowFirst.start(0, 0.1);
         lowFirst.start(1, 0.2);
         lowFirst.start(2, 0.3);
-        readAll(lowFirst, 0);
+        Models.readAll(lowFirst, 0);
         Check.same("12: the lowest state is added first", lowFirst.total(), 0.1 + 0.2 + 0.3);
-        PathOdds most = even(6, 1.0);
-        readAll(most, 0, 1, 2, 3, 0, 1, 2, 3, 0, 1, 2, 3);
+        PathOdds most = Models.even(6, 1.0);
+        Models.readAll(most, 0, 1, 2, 3, 0, 1, 2, 3, 0, 1, 2, 3);
         Check.same("12: the greatest total", most.total(), 2176782336.0);
-        PathOdds least = even(6, 0.0);
+        PathOdds least = Models.even(6, 0.0);
         least.read(0);
         Check.same("12: weights of 0", least.total(), 0.0);
     }
@@ -393,32 +371,32 @@ public final class PromisesTest {
     private static void best() {
         PathOdds x = uneven();
         Check.same("13: best() of no symbols", x.best(), 1.0);
-        readAll(x, 0);
+        Models.readAll(x, 0);
         Check.same("13: best() of one symbol", x.best(), 0.7 * 0.3);
-        readAll(x, 1);
+        Models.readAll(x, 1);
         Check.same("13: best() of two", x.best(), Math.max(0.7 * 0.3 * 0.9 * 0.1, 0.7 * 0.3 * 0.2 * 0.9));
         PathOdds moveFirst = new PathOdds();
         moveFirst.start(0, 0.1);
         moveFirst.show(0, 0, 1.0);
         moveFirst.move(0, 0, 0.2);
         moveFirst.show(0, 1, 0.3);
-        readAll(moveFirst, 0, 1);
+        Models.readAll(moveFirst, 0, 1);
         Check.same("13: E comes in last", moveFirst.best(), 0.1 * 0.2 * 0.3);
         Check.that("13: that case tells orders apart",
             0.1 * 0.2 * 0.3 != 0.1 * (0.2 * 0.3) && 0.1 * 0.2 * 0.3 != 0.1 * 0.3 * 0.2);
-        PathOdds most = even(6, 1.0);
-        readAll(most, 0, 1, 2, 3, 0, 1, 2, 3, 0, 1, 2, 3);
+        PathOdds most = Models.even(6, 1.0);
+        Models.readAll(most, 0, 1, 2, 3, 0, 1, 2, 3, 0, 1, 2, 3);
         Check.same("13: weights of 1", most.best(), 1.0);
         for (int only = 0; only < 6; only++) {
-            PathOdds one = even(6, 0.5);
+            PathOdds one = Models.even(6, 0.5);
             one.show(only, 2, 1.0);
             one.read(2);
             Check.same("13: the greatest is at " + only, one.best(), 0.5);
         }
-        PathOdds least = even(6, 0.0);
+        PathOdds least = Models.even(6, 0.0);
         least.read(0);
         Check.same("13: weights of 0", least.best(), 0.0);
-        PathOdds tiny = even(2, 1e-200);
+        PathOdds tiny = Models.even(2, 1e-200);
         tiny.read(0);
         Check.same("13: a product that comes out as 0", tiny.best(), 0.0);
     }
@@ -435,70 +413,70 @@ public final class PromisesTest {
     private static void bestState() {
         states("14: no symbols", new PathOdds());
 
-        PathOdds circle = even(3, 0.25);
+        PathOdds circle = Models.even(3, 0.25);
         circle.start(2, 1.0);
         circle.move(2, 0, 1.0);
         circle.move(0, 1, 1.0);
         circle.move(1, 2, 1.0);
-        readAll(circle, 0, 1, 2, 3, 0, 1, 2, 3, 0, 1, 2, 3);
+        Models.readAll(circle, 0, 1, 2, 3, 0, 1, 2, 3, 0, 1, 2, 3);
         states("14: a full row", circle, 2, 0, 1, 2, 0, 1, 2, 0, 1, 2, 0, 1);
 
-        PathOdds ties = even(4, 0.5);
-        readAll(ties, 0, 0, 0);
+        PathOdds ties = Models.even(4, 0.5);
+        Models.readAll(ties, 0, 0, 0);
         states("14: all alike", ties, 0, 0, 0);
         ties.start(0, 0.25);
         states("14: the lowest of those that tie", ties, 1, 0, 0);
         ties.show(0, 0, 0.25);
         states("14: the lowest of those that tie", ties, 1, 1, 1);
 
-        PathOdds later = even(2, 0.5);
+        PathOdds later = Models.even(2, 0.5);
         later.start(0, 0.75);
         later.move(1, 1, 1.0);
-        readAll(later, 0, 0);
+        Models.readAll(later, 0, 0);
         states("14: the best row need not begin in the best first state", later, 1, 1);
 
-        PathOdds zero = even(3, 0.5);
+        PathOdds zero = Models.even(3, 0.5);
         zero.start(2, 1.0);
         for (int j = 0; j < 3; j++) {
             zero.move(0, j, 0.0);
             zero.move(1, j, 0.0);
             zero.show(j, 3, 0.0);
         }
-        readAll(zero, 0, 3);
+        Models.readAll(zero, 0, 3);
         Check.same("14: best()", zero.best(), 0.0);
         states("14: best() is 0 by what is shown", zero, 2, 0);
         zero.read(0);
         states("14: best() is 0 and goes on", zero, 2, 0, 0);
 
-        PathOdds stuck = even(3, 0.0);
+        PathOdds stuck = Models.even(3, 0.0);
         stuck.start(2, 1.0);
         stuck.show(2, 0, 1.0);
         stuck.show(1, 0, 1.0);
-        readAll(stuck, 0);
+        Models.readAll(stuck, 0);
         states("14: one way", stuck, 2);
-        readAll(stuck, 0);
+        Models.readAll(stuck, 0);
         states("14: best() is 0 by moves", stuck, 0, 0);
 
-        PathOdds tiny = even(2, 1.0);
+        PathOdds tiny = Models.even(2, 1.0);
         tiny.show(0, 0, 1e-200);
         tiny.show(1, 0, 1e-190);
-        readAll(tiny, 0, 0);
+        Models.readAll(tiny, 0, 0);
         Check.same("14: best()", tiny.best(), 0.0);
         states("14: best() comes out as 0", tiny, 1, 0);
 
         // The move decides before the symbol's weight rounds both to the same double.
-        PathOdds close = even(2, 1.0);
+        PathOdds close = Models.even(2, 1.0);
         close.start(0, 0.6);
         close.start(1, 0.7);
         close.show(0, 1, Double.MIN_VALUE);
         close.show(1, 1, 0.0);
-        readAll(close, 0, 1);
+        Models.readAll(close, 0, 1);
         states("14: from is chosen before E", close, 1, 0);
     }
 
     private static void share() {
         PathOdds x = uneven();
-        readAll(x, 0, 1, 0);
+        Models.readAll(x, 0, 1, 0);
         for (int t = 0; t < 3; t++) {
             double sum = 0.0;
             for (int i = 0; i < 2; i++) {
@@ -516,14 +494,14 @@ public final class PromisesTest {
         productFirst.move(1, 1, 1.0);
         productFirst.show(0, 0, 1.0);
         productFirst.show(1, 0, 1.0);
-        readAll(productFirst, 0, 0);
+        Models.readAll(productFirst, 0, 0);
         double all = 0.1 * 0.1 + 0.2;
         Check.same("15: the product comes first", productFirst.share(0, 0), (0.1 * 0.1) / all);
         Check.that("15: that case tells orders apart", (0.1 * 0.1) / all != 0.1 * (0.1 / all));
 
-        PathOdds only = even(2, 0.5);
+        PathOdds only = Models.even(2, 0.5);
         only.start(0, 0.0);
-        readAll(only, 1);
+        Models.readAll(only, 1);
         Check.same("15: a share of 0", only.share(0, 0), 0.0);
         Check.same("15: a share of 1", only.share(0, 1), 1.0);
 
@@ -535,33 +513,33 @@ public final class PromisesTest {
 
         placesAndStates("15: share", a -> a.model.share(a.t, a.i));
 
-        PathOdds none = even(2, 0.0);
+        PathOdds none = Models.even(2, 0.0);
         Check.throwsExactly("15: share(0, 0) of no symbols", IndexOutOfBoundsException.class, () -> none.share(0, 0));
-        readAll(none, 0, 0);
+        Models.readAll(none, 0, 0);
         Check.throwsExactly("15: share(0, 1) of nothing", ArithmeticException.class, () -> none.share(0, 1));
         Check.throwsExactly("15: share(1, 0) of nothing", ArithmeticException.class, () -> none.share(1, 0));
         Check.throwsExactly("15: the state before the total", IllegalArgumentException.class, () -> none.share(1, 2));
         Check.throwsExactly("15: the place before the total", IndexOutOfBoundsException.class, () -> none.share(2, 0));
         Check.throwsExactly("15: the place before the state", IndexOutOfBoundsException.class, () -> none.share(2, 2));
 
-        PathOdds tiny = even(2, 1e-200);
-        readAll(tiny, 0);
+        PathOdds tiny = Models.even(2, 1e-200);
+        Models.readAll(tiny, 0);
         Check.throwsExactly("15: a total that comes out as 0", ArithmeticException.class, () -> tiny.share(0, 0));
-        PathOdds minus = even(2, -0.0);
-        readAll(minus, 0);
+        PathOdds minus = Models.even(2, -0.0);
+        Models.readAll(minus, 0);
         Check.throwsExactly("15: a total of weights -0.0", ArithmeticException.class, () -> minus.share(0, 0));
     }
 
     private static void possible() {
-        PathOdds x = even(6, 1.0);
+        PathOdds x = Models.even(6, 1.0);
         long due = 1;
         for (int t = 0; t <= 12; t++) {
             Check.same("16: possible() at length " + t, x.possible(), due);
             x.read(t % 4);
             due *= 6;
         }
-        PathOdds tiny = even(3, Double.MIN_VALUE);
-        readAll(tiny, 0, 1, 2);
+        PathOdds tiny = Models.even(3, Double.MIN_VALUE);
+        Models.readAll(tiny, 0, 1, 2);
         Check.same("16: total()", tiny.total(), 0.0);
         Check.same("16: products that come out as 0", tiny.possible(), 27);
         tiny.start(1, 0.0);
@@ -582,8 +560,8 @@ public final class PromisesTest {
     }
 
     private static void answersOfThePresent() {
-        PathOdds x = even(2, 0.5);
-        readAll(x, 0, 0);
+        PathOdds x = Models.even(2, 0.5);
+        Models.readAll(x, 0, 0);
         x.forward(1, 1);
         x.backward(0, 0);
         x.best();
@@ -604,7 +582,7 @@ public final class PromisesTest {
         x.unread();
         Check.same("after unread: backward(0, 1)", x.backward(0, 1), 1.0);
         Check.same("after unread: bestState(1)", x.bestState(1), -1);
-        PathOdds y = even(2, 1.0);
+        PathOdds y = Models.even(2, 1.0);
         y.read(0);
         Check.same("two objects: total()", x.total(), 0.25);
         Check.same("two objects: total()", y.total(), 2.0);
@@ -619,12 +597,12 @@ public final class PromisesTest {
     }
 
     private static void placesAndStates(String what, Question question) {
-        PathOdds x = even(2, 1.0);
+        PathOdds x = Models.even(2, 1.0);
         int[] noPlace = {-1, 2, 11, 12, Integer.MIN_VALUE, Integer.MAX_VALUE};
         int[] places = {0, 1};
         Check.throwsExactly(what + " of no symbols", IndexOutOfBoundsException.class,
             () -> question.of(new Asked(x, 0, 0)));
-        readAll(x, 0, 1, 2);
+        Models.readAll(x, 0, 1, 2);
         x.unread();
         for (int t : noPlace) {
             for (int i = -1; i <= 2; i++) {

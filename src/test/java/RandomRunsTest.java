@@ -300,16 +300,18 @@ public final class RandomRunsTest {
         }
 
         private void askTotal() {
-            Check.same(told("total()"), x.total(), second.total());
+            double got = x.total();
+            Check.same(told("total()"), got, second.total());
             if (second.rowsAreFew()) {
-                Check.near(told("total()"), x.total(), second.sumOfRows(0, 0, 1.0));
+                Check.near(told("total()"), got, second.sumOfRows(0, 0, 1.0));
             }
         }
 
         private void askBest() {
-            Check.same(told("best()"), x.best(), second.best());
+            double got = x.best();
+            Check.same(told("best()"), got, second.best());
             if (second.rowsAreFew()) {
-                Check.same(told("best()"), x.best(), second.greatestRow(0, 0, 1.0));
+                Check.same(told("best()"), got, second.greatestRow(0, 0, 1.0));
             }
         }
 
