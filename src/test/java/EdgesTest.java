@@ -19,6 +19,7 @@ public final class EdgesTest {
         Check.sentence("Promise 3: \"The number of states.\"", EdgesTest::size);
         Check.sentence("Promise 4: \"false if there is no such state or w is not from 0 to 1.\"",
             EdgesTest::startRefused);
+        Check.sentence("Promise 4: \"S(i) becomes w\", and so for M and E, -0.0 too", EdgesTest::weightsBecomeMinusZero);
         Check.sentence("Promise 5: \"false if there is no such state or w is not from 0 to 1.\"",
             EdgesTest::moveRefused);
         Check.sentence("Promise 6: \"false if there is no such state or symbol, or w is not from 0 to 1.\"",
@@ -161,6 +162,37 @@ public final class EdgesTest {
             Check.that("start(0, 1)", x.start(0, 1.0));
             Check.same("S(0) is 1", x.forward(0, 0), 0.5);
         }
+    }
+
+    /** -0.0 is from 0 to 1, as doubles are compared; what is told with it is what doubles make of it. */
+    private static void weightsBecomeMinusZero() {
+        PathOdds start = Models.even(2, 1.0);
+        start.read(0);
+        Check.that("start(0, -0.0)", start.start(0, -0.0));
+        Check.sameBits("A(0, 0) by S(0)", start.forward(0, 0), -0.0);
+        Check.sameBits("total() by S(0)", start.total(), 1.0);
+        Check.sameBits("share(0, 0) by S(0)", start.share(0, 0), -0.0);
+        Check.same("bestState(0) by S(0)", start.bestState(0), 1);
+        Check.same("possible() by S(0)", start.possible(), 1);
+
+        PathOdds show = Models.even(2, 1.0);
+        Models.readAll(show, 0, 1);
+        Check.that("show(1, 1, -0.0)", show.show(1, 1, -0.0));
+        Check.sameBits("A(1, 1) by E(1, 1)", show.forward(1, 1), -0.0);
+        Check.sameBits("share(1, 1) by E(1, 1)", show.share(1, 1), -0.0);
+        Check.same("possible() by E(1, 1)", show.possible(), 2);
+
+        PathOdds move = Models.even(1, 1.0);
+        Models.readAll(move, 0, 0);
+        Check.that("move(0, 0, -0.0)", move.move(0, 0, -0.0));
+        Check.sameBits("best() by M(0, 0), which no sum takes in", move.best(), -0.0);
+        Check.sameBits("A(1, 0) by M(0, 0)", move.forward(1, 0), 0.0);
+        Check.same("possible() by M(0, 0)", move.possible(), 0);
+
+        PathOdds one = Models.even(1, 1.0);
+        one.read(0);
+        one.start(0, -0.0);
+        Check.sameBits("best() by S(0), a product alone", one.best(), -0.0);
     }
 
     private static void moveRefused() {

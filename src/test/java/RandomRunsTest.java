@@ -221,7 +221,7 @@ public final class RandomRunsTest {
                 return wrong[random.nextInt(wrong.length)];
             }
             if (odd < 6) {
-                return odd < 4 ? 0.0 : 1.0;
+                return odd == 1 ? -0.0 : odd < 4 ? 0.0 : 1.0;
             }
             switch (kindOfWeights) {
                 case 0: return random.nextInt(11) / 10.0;
@@ -301,7 +301,7 @@ public final class RandomRunsTest {
 
         private void askTotal() {
             double got = x.total();
-            Check.same(told("total()"), got, second.total());
+            Check.sameBits(told("total()"), got, second.total());
             if (second.rowsAreFew()) {
                 Check.near(told("total()"), got, second.sumOfRows(0, 0, 1.0));
             }
@@ -336,13 +336,13 @@ public final class RandomRunsTest {
             } else if (!isState(i)) {
                 Check.throwsExactly(call, IllegalArgumentException.class, asked);
             } else if (which == 6) {
-                Check.same(call, asked.answer(), second.forward(t, i));
+                Check.sameBits(call, asked.answer(), second.forward(t, i));
             } else if (which == 7) {
-                Check.same(call, asked.answer(), second.backward(t, i));
+                Check.sameBits(call, asked.answer(), second.backward(t, i));
             } else if (second.total() == 0) {
                 Check.throwsExactly(call, ArithmeticException.class, asked);
             } else {
-                Check.same(call, asked.answer(), (second.forward(t, i) * second.backward(t, i)) / second.total());
+                Check.sameBits(call, asked.answer(), (second.forward(t, i) * second.backward(t, i)) / second.total());
             }
         }
     }

@@ -110,10 +110,10 @@ public final class TermsTest {
             PathOdds x = Models.even(1, 1.0);
             x.read(0);
             Check.that("start(0, " + w + ")", x.start(0, w));
-            Check.same("S(0)", x.forward(0, 0), w);
+            Check.sameBits("S(0)", x.forward(0, 0), w);
             x.start(0, 1.0);
             Check.that("show(0, 0, " + w + ")", x.show(0, 0, w));
-            Check.same("E(0, 0)", x.forward(0, 0), w);
+            Check.sameBits("E(0, 0)", x.forward(0, 0), w);
             x.show(0, 0, 1.0);
             x.read(0);
             Check.that("move(0, 0, " + w + ")", x.move(0, 0, w));
